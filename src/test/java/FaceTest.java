@@ -1,0 +1,72 @@
+import java.lang.reflect.Constructor;
+import java.lang.reflect.Field;
+import java.lang.reflect.Method;
+import java.lang.reflect.Modifier;
+import java.util.Arrays;
+import java.util.Set;
+import java.util.TreeSet;
+
+/** The public face: what the document's code block gives, and no other member that is not private. */
+final class FaceTest {
+    private static final String INDEX = " IndexOutOfBoundsException";
+    private static final String ARGUMENT = " IllegalArgumentException";
+    private static final String STATE = " IllegalStateException";
+    private static final String[] FACE = {
+        "int setGround(int, int, int, int)" + INDEX + ARGUMENT,
+        "boolean ditch(int, int)" + INDEX,
+        "int setNight(int, int, int, int)" + INDEX + ARGUMENT,
+        "int drive(int, int)" + INDEX + STATE,
+        "int again(int)" + INDEX + STATE,
+        "int pitch(int, int, int)" + INDEX + ARGUMENT + STATE,
+        "int raise(int)" + INDEX + STATE,
+        "int tie(int, int)" + INDEX + STATE,
+        "int ground(int, int, int)" + INDEX,
+        "int peg(int, int)" + INDEX,
+        "int tent(int, int)" + INDEX,
+        "int count(int)" + INDEX,
+        "int holds(int, int, int)" + INDEX + ARGUMENT,
+        "int storm(int, int, int)" + ARGUMENT + INDEX,
+        "int bears(int)" + ARGUMENT,
+        "int flood(int, int, int)" + ARGUMENT + INDEX,
+        "int advise(int, int)" + INDEX + ARGUMENT,
+        "int pass(int)" + ARGUMENT,
+        "int foresee(int, int)" + ARGUMENT + INDEX,
+        "double mean()",
+        "long digest()",
+    };
+
+    public static void main(String[] args) {
+        Check check = new Check("FaceTest");
+        check.due("the class's modifiers", TentCamp.class.getModifiers(), Modifier.PUBLIC | Modifier.FINAL);
+        Set<String> open = new TreeSet<>();
+        for (Method method : TentCamp.class.getDeclaredMethods()) {
+            if (!Modifier.isPrivate(method.getModifiers()) && !method.isSynthetic()) {
+                check.due("modifiers of " + method.getName(), method.getModifiers(), Modifier.PUBLIC);
+                open.add(lineOf(method));
+            }
+        }
+        check.due("the methods", open.toString(), new TreeSet<>(Arrays.asList(FACE)).toString());
+        Constructor<?>[] constructors = TentCamp.class.getDeclaredConstructors();
+        check.due("constructors", constructors.length, 1);
+        check.due("the constructor", constructors[0].toString(), "public TentCamp()");
+        for (Field field : TentCamp.class.getDeclaredFields()) {
+            check.due(field.getName() + " is private", Modifier.isPrivate(field.getModifiers()), true);
+        }
+        check.end();
+    }
+
+    private static String lineOf(Method method) {
+        StringBuilder line = new StringBuilder();
+        line.append(method.getReturnType()).append(' ').append(method.getName()).append('(');
+        String comma = "";
+        for (Class<?> parameter : method.getParameterTypes()) {
+            line.append(comma).append(parameter);
+            comma = ", ";
+        }
+        line.append(')');
+        for (Class<?> thrown : method.getExceptionTypes()) {
+            line.append(' ').append(thrown.getSimpleName());
+        }
+        return line.toString();
+    }
+}
