@@ -11,6 +11,7 @@ final class NightsTest {
         softeningComesBehindTheStorm();
         passRefuses();
         foresee();
+        foreseeKnowsTheGround();
         foreseeRefuses();
         CHECK.end();
     }
@@ -205,6 +206,30 @@ final class NightsTest {
         CHECK.due("foresee(2, 1)", camp.foresee(2, 1), 2);
         CHECK.due("foresee(3, 1)", camp.foresee(3, 1), 0);
         CHECK.due("foresee(3, 2)", camp.foresee(3, 2), 2);
+    }
+
+    /** Behind a wall water runs up to the highest row, where it softens the ground of the first cell. */
+    private static void foreseeKnowsTheGround() {
+        TentCamp camp = new TentCamp();
+        for (int y = 0; y < 10; y++) {
+            camp.setGround(0, y, 20 + y, 5);
+            camp.setGround(1, y, 30, 5);
+        }
+        camp.drive(0, 0);
+        camp.pitch(0, 9, 5);
+        camp.tie(0, 0);
+        camp.setNight(0, 4, 0, 9);
+        CHECK.due("foresee(7, 0)", camp.foresee(7, 0), 1);
+        CHECK.due("foresee(8, 0)", camp.foresee(8, 0), 0);
+        CHECK.due("ground(0, 0, 1) foreseen only", camp.ground(0, 0, 1), 5);
+        camp.setGround(0, 0, 20, 8);
+        CHECK.due("foresee(8, 0) on firm ground", camp.foresee(8, 0), 1);
+        camp.ditch(0, 1);
+        CHECK.due("foresee(30, 2) behind a ditch", camp.foresee(30, 2), 1);
+        camp.ditch(0, 1);
+        CHECK.due("foresee(30, 2) without the ditch", camp.foresee(30, 2), 0);
+        CHECK.due("pass(7)", camp.pass(7), 0);
+        CHECK.due("ground(0, 0, 1)", camp.ground(0, 0, 1), 7);
     }
 
     private static void foreseeRefuses() {

@@ -16,8 +16,10 @@ final class RainTest {
         TentCamp camp = new TentCamp();
         long before = camp.digest();
         for (int rain = 0; rain <= 9; rain++) {
-            for (int y = 0; y < 10; y++) {
-                CHECK.due("flood(" + rain + ", 4, " + y + ")", camp.flood(rain, 4, y), rain * (y + 1));
+            for (int cell = 0; cell < 100; cell++) {
+                int x = cell % 10;
+                int y = cell / 10;
+                CHECK.due("flood(" + rain + ", " + x + ", " + y + ")", camp.flood(rain, x, y), rain * (y + 1));
             }
         }
         CHECK.due("flood() changes nothing", camp.digest(), before);

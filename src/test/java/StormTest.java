@@ -226,6 +226,12 @@ final class StormTest {
         light.pitch(5, 5, 2);
         light.tie(0, 0);
         CHECK.due("bears(0) of a light tent", light.bears(0), 9);
+        TentCamp heavy = new TentCamp();
+        heavy.drive(5, 4);
+        heavy.setGround(5, 4, 5, 1);
+        heavy.pitch(5, 5, 4);
+        heavy.tie(0, 0);
+        CHECK.due("bears(0) of a tent that stands 4 of 4", heavy.bears(0), 1);
     }
 
     private static void bearsRefuses() {
