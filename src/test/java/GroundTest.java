@@ -5,10 +5,12 @@ final class GroundTest {
     public static void main(String[] args) {
         newCamp();
         setGround();
+        setGroundAtTheEdges();
         setGroundRefuses();
         ditch();
         ground();
         mean();
+        meanAtItsEdges();
         CHECK.end();
     }
 
@@ -27,8 +29,9 @@ final class GroundTest {
                 CHECK.due(cell + "4)", camp.ground(x, y, 4), -1);
             }
         }
+        TentCamp other = new TentCamp();
         for (int night = 0; night < 7; night++) {
-            CHECK.due("new: setNight(" + night + ", 0, 0, 0)", camp.setNight(night, 0, 0, 0), 0);
+            CHECK.due("new: setNight(" + night + ", 0, 0, 0)", other.setNight(night, 0, 0, 0), 0);
         }
     }
 
@@ -45,6 +48,28 @@ final class GroundTest {
         CHECK.due("setGround(3, 7, 20, 2)", camp.setGround(3, 7, 20, 2), 25);
         CHECK.due("ground(3, 7, 0)", camp.ground(3, 7, 0), 20);
         CHECK.due("ground(7, 3, 0)", camp.ground(7, 3, 0), 6);
+    }
+
+    private static void setGroundAtTheEdges() {
+        TentCamp camp = new TentCamp();
+        int[] corners = {0, 9, 90, 99};
+        for (int corner : corners) {
+            int x = corner % 10;
+            int y = corner / 10;
+            String cell = "(" + x + ", " + y + ", ";
+            CHECK.due("setGround" + cell + "30, 9)", camp.setGround(x, y, 30, 9), 10 * (9 - y) + 5);
+            CHECK.due("ground" + cell + "0) at most", camp.ground(x, y, 0), 30);
+            CHECK.due("ground" + cell + "1) at most", camp.ground(x, y, 1), 9);
+            CHECK.due("setGround" + cell + "0, 1)", camp.setGround(x, y, 0, 1), 309);
+            CHECK.due("ground" + cell + "0) at least", camp.ground(x, y, 0), 0);
+            CHECK.due("ground" + cell + "1) at least", camp.ground(x, y, 1), 1);
+        }
+        CHECK.due("ground(1, 0, 0) beside a corner", camp.ground(1, 0, 0), 9);
+        CHECK.due("ground(8, 9, 1) beside a corner", camp.ground(8, 9, 1), 5);
+        CHECK.due("setGround(9, 9, 0, 1) as it is", camp.setGround(9, 9, 0, 1), 1);
+        camp.ditch(9, 9);
+        camp.setGround(9, 9, 3, 3);
+        CHECK.due("ground(9, 9, 2) keeps its ditch", camp.ground(9, 9, 2), 1);
     }
 
     private static void setGroundRefuses() {
@@ -73,6 +98,10 @@ final class GroundTest {
         CHECK.due("ground(2, 8, 2)", camp.ground(2, 8, 2), 0);
         CHECK.due("count(7)", camp.count(7), 1);
         CHECK.due("ditch(2, 8)", camp.ditch(2, 8), true);
+        CHECK.due("ditch(0, 0)", camp.ditch(0, 0), true);
+        CHECK.due("ditch(0, 9)", camp.ditch(0, 9), true);
+        CHECK.due("ditch(9, 9)", camp.ditch(9, 9), true);
+        CHECK.due("count(7)", camp.count(7), 5);
         CHECK.outOfBounds("ditch(-1, 4)", camp, () -> camp.ditch(-1, 4));
         CHECK.outOfBounds("ditch(10, 4)", camp, () -> camp.ditch(10, 4));
         CHECK.outOfBounds("ditch(4, -1)", camp, () -> camp.ditch(4, -1));
@@ -107,5 +136,17 @@ final class GroundTest {
         CHECK.due("mean() with 503 in all", camp.mean(), 5.03);
         camp.setGround(9, 9, 9, 1);
         CHECK.due("mean() with 499 in all", camp.mean(), 4.99);
+    }
+
+    private static void meanAtItsEdges() {
+        TentCamp camp = new TentCamp();
+        for (int firmness = 1; firmness <= 9; firmness += 8) {
+            for (int cell = 0; cell < 100; cell++) {
+                camp.setGround(cell % 10, cell / 10, 0, firmness);
+            }
+            CHECK.due("mean() of " + firmness + " everywhere", camp.mean(), (double) firmness);
+        }
+        camp.setGround(3, 3, 30, 8);
+        CHECK.due("mean() with 899 in all", camp.mean(), 8.99);
     }
 }

@@ -4,7 +4,8 @@ import java.util.Random;
 /** All promises: long runs of calls, right and wrong ones, with the answers that ReferenceCamp gives. */
 final class ModelTest {
     private static final int RUNS = 60;
-    private static final int CALLS = 512;
+    /** With the digest() behind each 16th one and at the end a camp is asked no more than 512 times. */
+    private static final int CALLS = 480;
     private static final String[] BUILDING = {
         "drive", "drive", "pitch", "tie", "tie", "tie", "tie", "setGround", "setGround", "setNight", "ditch"
     };

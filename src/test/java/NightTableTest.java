@@ -19,6 +19,14 @@ final class NightTableTest {
         check.badArgument("setNight(0, 1, 1, 10)", camp, () -> camp.setNight(0, 1, 1, 10));
         check.outOfBounds("setNight(7, 10, 4, 10)", camp, () -> camp.setNight(7, 10, 4, 10));
         check.due("setNight(0, 0, 0, 0)", camp.setNight(0, 0, 0, 0), 510);
+        for (int night = 0; night <= 6; night++) {
+            camp.setNight(night, night + 3, night % 4, 9 - night);
+        }
+        for (int night = 0; night <= 6; night++) {
+            int due = 100 * (night + 3) + 10 * (night % 4) + 9 - night;
+            check.due("setNight(" + night + ", 9, 3, 9)", camp.setNight(night, 9, 3, 9), due);
+            check.due("setNight(" + night + ", 0, 0, 0)", camp.setNight(night, 0, 0, 0), 939);
+        }
         check.end();
     }
 }

@@ -1,18 +1,20 @@
-/** Promises 19 and 20: nights that go by, and nights foreseen. */
+/** Promise 19: nights that go by. */
 final class NightsTest {
     private static final Check CHECK = new Check("NightsTest");
 
     public static void main(String[] args) {
         stormTearsDown();
         tableGoesByRemainder();
+        eachNightHasItsRow();
+        passAtItsEdges();
+        passCountsOnlyWhatComesDown();
         floodWets();
         rainWetsTheFallen();
         floodSoftens();
+        floodSoftensInAllCells();
+        softensNoneBelowOne();
         softeningComesBehindTheStorm();
         passRefuses();
-        foresee();
-        foreseeKnowsTheGround();
-        foreseeRefuses();
         CHECK.end();
     }
 
@@ -52,6 +54,74 @@ final class NightsTest {
         CHECK.due("pass(6) up to the night 16", camp.pass(6), 0);
         CHECK.due("pass(30)", camp.pass(30), 1);
         CHECK.due("count(0)", camp.count(0), 47);
+    }
+
+    /** A storm in one row alone comes each seventh night, from the night of this number on. */
+    private static void eachNightHasItsRow() {
+        for (int row = 0; row < 7; row++) {
+            TentCamp camp = new TentCamp();
+            camp.setNight(row, 1, 0, 0);
+            camp.pitch(5, 5, 1);
+            for (int night = 0; night < 22; night++) {
+                boolean due = night % 7 == row;
+                String title = "the night " + night + " with a storm in row " + row;
+                CHECK.due(title + ": foresee(1, 0)", camp.foresee(1, 0), due ? 0 : 1);
+                CHECK.due(title + ": pass(1)", camp.pass(1), due ? 1 : 0);
+                CHECK.due(title + ": count(0)", camp.count(0), night + 1);
+                if (due) {
+                    camp.raise(0);
+                }
+            }
+        }
+    }
+
+    private static void passAtItsEdges() {
+        TentCamp camp = new TentCamp();
+        CHECK.due("pass(1) without tents", camp.pass(1), 0);
+        CHECK.due("count(0) behind pass(1)", camp.count(0), 1);
+        CHECK.due("pass(30) without tents", camp.pass(30), 0);
+        CHECK.due("count(0) behind pass(30)", camp.count(0), 31);
+        camp.pitch(5, 5, 1);
+        CHECK.due("pass(30) without force or rain", camp.pass(30), 0);
+        CHECK.due("tent(0, 3)", camp.tent(0, 3), 1);
+        CHECK.due("tent(0, 4)", camp.tent(0, 4), 0);
+        CHECK.due("foresee(29, 2), 20 of 20 in the night 22", withSofterPeg().foresee(29, 2), 1);
+        CHECK.due("foresee(30, 2), 20 of 16 in the night 29", withSofterPeg().foresee(30, 2), 0);
+        TentCamp spared = withSofterPeg();
+        CHECK.due("pass(29)", spared.pass(29), 0);
+        CHECK.due("peg(0, 3) behind pass(29)", spared.peg(0, 3), 16);
+        CHECK.due("pass(1), the 30th night", spared.pass(1), 1);
+        CHECK.due("pass(30)", withSofterPeg().pass(30), 1);
+    }
+
+    /** Rain of the nights 0, 7, 14, 21 and 28 softens the ground of a peg; a storm pulls at it in the nights behind. */
+    private static TentCamp withSofterPeg() {
+        TentCamp camp = new TentCamp();
+        camp.drive(5, 9);
+        camp.setGround(5, 9, 0, 9);
+        camp.pitch(5, 0, 5);
+        camp.tie(0, 0);
+        camp.setNight(0, 0, 0, 2);
+        camp.setNight(1, 4, 2, 0);
+        return camp;
+    }
+
+    private static void passCountsOnlyWhatComesDown() {
+        TentCamp camp = new TentCamp();
+        camp.drive(5, 0);
+        for (int tent = 0; tent < 8; tent++) {
+            camp.pitch(tent, 5, 1);
+        }
+        camp.tie(0, 0);
+        camp.setNight(0, 1, 0, 0);
+        camp.setNight(1, 1, 2, 0);
+        CHECK.due("pass(1), all but one", camp.pass(1), 7);
+        CHECK.due("pass(1), the last one", camp.pass(1), 1);
+        CHECK.due("pass(30) with all down", camp.pass(30), 0);
+        camp.raise(3);
+        camp.raise(0);
+        CHECK.due("pass(30) with two raised", camp.pass(30), 2);
+        CHECK.due("count(4)", camp.count(4), 0);
     }
 
     private static void floodWets() {
@@ -137,6 +207,43 @@ final class NightsTest {
         }
     }
 
+    /** Each cell in its turn is the pit that all water runs to. */
+    private static void floodSoftensInAllCells() {
+        for (int pit = 0; pit < 100; pit++) {
+            TentCamp camp = new TentCamp();
+            for (int cell = 0; cell < 100; cell++) {
+                int away = Math.abs(cell % 10 - pit % 10) + Math.abs(cell / 10 - pit / 10);
+                camp.setGround(cell % 10, cell / 10, away, 5);
+            }
+            camp.setNight(0, 0, 0, 1);
+            camp.pass(1);
+            CHECK.due("ground(), the pit " + pit, camp.ground(pit % 10, pit / 10, 1), 4);
+        }
+    }
+
+    private static void softensNoneBelowOne() {
+        TentCamp camp = new TentCamp();
+        camp.setGround(4, 9, 0, 1);
+        camp.setGround(5, 9, 0, 2);
+        camp.setGround(6, 9, 0, 3);
+        for (int night = 0; night < 7; night++) {
+            camp.setNight(night, 0, 0, 2);
+        }
+        CHECK.due("flood(2, 4, 9)", camp.flood(2, 4, 9), 20);
+        camp.pass(1);
+        CHECK.due("ground(4, 9, 1) stays 1", camp.ground(4, 9, 1), 1);
+        CHECK.due("ground(5, 9, 1) from 2", camp.ground(5, 9, 1), 1);
+        CHECK.due("ground(6, 9, 1) from 3", camp.ground(6, 9, 1), 2);
+        CHECK.due("ground(7, 9, 1) from 5", camp.ground(7, 9, 1), 4);
+        CHECK.due("ground(7, 8, 1) with a flood of 18", camp.ground(7, 8, 1), 5);
+        camp.pass(30);
+        for (int x = 0; x < 10; x++) {
+            CHECK.due("ground(" + x + ", 9, 1) 31 nights on", camp.ground(x, 9, 1), 1);
+            CHECK.due("ground(" + x + ", 8, 1) 31 nights on", camp.ground(x, 8, 1), 5);
+        }
+        CHECK.due("mean() 31 nights on", camp.mean(), 4.6);
+    }
+
     private static void softeningComesBehindTheStorm() {
         TentCamp camp = new TentCamp();
         camp.drive(5, 5);
@@ -157,88 +264,5 @@ final class NightsTest {
         CHECK.badArgument("pass(-1)", camp, () -> camp.pass(-1));
         CHECK.badArgument("pass(31)", camp, () -> camp.pass(31));
         CHECK.due("pass(30)", camp.pass(30), 1);
-    }
-
-    /** Tents that fall, get wet and lose pegs one night after the other. */
-    private static TentCamp lively() {
-        TentCamp camp = new TentCamp();
-        for (int peg = 0; peg < 5; peg++) {
-            camp.drive(2 * peg, 3 + peg);
-            camp.pitch(2 * peg, 4 + peg, 2 + peg);
-            camp.tie(peg, peg);
-        }
-        for (int night = 0; night < 7; night++) {
-            camp.setNight(night, night + 1, night % 2 * 2, 8 - night);
-        }
-        camp.setGround(0, 3, 20, 9);
-        camp.pass(2);
-        camp.raise(4);
-        camp.ditch(6, 4);
-        return camp;
-    }
-
-    private static void foresee() {
-        for (int nights = 1; nights <= 30; nights++) {
-            TentCamp camp = lively();
-            TentCamp twin = lively();
-            String ahead = "foresee(" + nights + ", ";
-            int standing = camp.foresee(nights, 0);
-            int dry = camp.foresee(nights, 1);
-            int in = camp.foresee(nights, 2);
-            CHECK.due(ahead + ") changes nothing", camp.digest(), twin.digest());
-            twin.pass(nights);
-            CHECK.due(ahead + "0)", standing, twin.count(4));
-            CHECK.due(ahead + "1)", dry, twin.count(5));
-            CHECK.due(ahead + "2)", in, twin.count(2));
-        }
-        TentCamp camp = new TentCamp();
-        camp.drive(5, 4);
-        camp.drive(0, 0);
-        camp.pitch(5, 5, 5);
-        camp.pitch(9, 0, 1);
-        camp.tie(0, 0);
-        camp.tie(1, 1);
-        camp.setNight(1, 9, 3, 0);
-        camp.setNight(2, 5, 0, 1);
-        camp.setNight(3, 0, 0, 1);
-        CHECK.due("foresee(1, 0)", camp.foresee(1, 0), 2);
-        CHECK.due("foresee(2, 0)", camp.foresee(2, 0), 1);
-        CHECK.due("foresee(2, 1)", camp.foresee(2, 1), 2);
-        CHECK.due("foresee(3, 1)", camp.foresee(3, 1), 0);
-        CHECK.due("foresee(3, 2)", camp.foresee(3, 2), 2);
-    }
-
-    /** Behind a wall water runs up to the highest row, where it softens the ground of the first cell. */
-    private static void foreseeKnowsTheGround() {
-        TentCamp camp = new TentCamp();
-        for (int y = 0; y < 10; y++) {
-            camp.setGround(0, y, 20 + y, 5);
-            camp.setGround(1, y, 30, 5);
-        }
-        camp.drive(0, 0);
-        camp.pitch(0, 9, 5);
-        camp.tie(0, 0);
-        camp.setNight(0, 4, 0, 9);
-        CHECK.due("foresee(7, 0)", camp.foresee(7, 0), 1);
-        CHECK.due("foresee(8, 0)", camp.foresee(8, 0), 0);
-        CHECK.due("ground(0, 0, 1) foreseen only", camp.ground(0, 0, 1), 5);
-        camp.setGround(0, 0, 20, 8);
-        CHECK.due("foresee(8, 0) on firm ground", camp.foresee(8, 0), 1);
-        camp.ditch(0, 1);
-        CHECK.due("foresee(30, 2) behind a ditch", camp.foresee(30, 2), 1);
-        camp.ditch(0, 1);
-        CHECK.due("foresee(30, 2) without the ditch", camp.foresee(30, 2), 0);
-        CHECK.due("pass(7)", camp.pass(7), 0);
-        CHECK.due("ground(0, 0, 1)", camp.ground(0, 0, 1), 7);
-    }
-
-    private static void foreseeRefuses() {
-        TentCamp camp = lively();
-        CHECK.badArgument("foresee(0, 0)", camp, () -> camp.foresee(0, 0));
-        CHECK.badArgument("foresee(-1, 0)", camp, () -> camp.foresee(-1, 0));
-        CHECK.badArgument("foresee(31, 0)", camp, () -> camp.foresee(31, 0));
-        CHECK.badArgument("foresee(31, 3)", camp, () -> camp.foresee(31, 3));
-        CHECK.outOfBounds("foresee(1, -1)", camp, () -> camp.foresee(1, -1));
-        CHECK.outOfBounds("foresee(30, 3)", camp, () -> camp.foresee(30, 3));
     }
 }

@@ -5,7 +5,9 @@ final class PegTest {
     public static void main(String[] args) {
         drive();
         driveRefuses();
+        driveCountsPegsThatAreOut();
         again();
+        againAtTheEdges();
         peg();
         CHECK.end();
     }
@@ -48,6 +50,59 @@ final class PegTest {
         return camp;
     }
 
+    /** Pegs in the two highest rows that tents of size 9, far below and at two of them at most, have torn out. */
+    private static TentCamp withPegsOut(int pegs) {
+        TentCamp camp = new TentCamp();
+        for (int peg = 0; peg < pegs; peg++) {
+            camp.drive(peg % 10, peg / 10);
+        }
+        camp.setNight(0, 9, 0, 0);
+        for (int tent = 0; tent < 8; tent++) {
+            camp.pitch(tent, 9, 9);
+        }
+        for (int peg = 0; peg < pegs; peg++) {
+            camp.tie(peg % 8, peg);
+        }
+        camp.pass(1);
+        return camp;
+    }
+
+    private static void driveCountsPegsThatAreOut() {
+        TentCamp fifteen = withPegsOut(15);
+        CHECK.due("count(2) with 15 out", fifteen.count(2), 0);
+        CHECK.badState("drive(0, 0) where peg 0 is out", fifteen, () -> fifteen.drive(0, 0));
+        CHECK.badState("drive(4, 1) where peg 14 is out", fifteen, () -> fifteen.drive(4, 1));
+        CHECK.due("drive(5, 1) beside 15 that are out", fifteen.drive(5, 1), 15);
+        CHECK.due("count(2) with 15 out and 1 in", fifteen.count(2), 1);
+        CHECK.badState("drive(6, 1) beside 16", fifteen, () -> fifteen.drive(6, 1));
+        TentCamp sixteen = withPegsOut(16);
+        CHECK.due("count(2) with 16 out", sixteen.count(2), 0);
+        CHECK.badState("drive(6, 1) beside 16 that are out", sixteen, () -> sixteen.drive(6, 1));
+        CHECK.outOfBounds("drive(-1, 1) beside 16", sixteen, () -> sixteen.drive(-1, 1));
+        CHECK.outOfBounds("again(16)", sixteen, () -> sixteen.again(16));
+        CHECK.due("again(15)", sixteen.again(15), 20);
+        CHECK.badState("again(15) once more", sixteen, () -> sixteen.again(15));
+        CHECK.due("count(2) with one in again", sixteen.count(2), 1);
+        CHECK.due("peg(14, 2) stays out", sixteen.peg(14, 2), 0);
+    }
+
+    private static void againAtTheEdges() {
+        TentCamp camp = new TentCamp();
+        CHECK.outOfBounds("again(0) without pegs", camp, () -> camp.again(0));
+        camp.drive(3, 3);
+        CHECK.badState("again(0) that never was out", camp, () -> camp.again(0));
+        TentCamp torn = withPegsOut(2);
+        torn.setGround(0, 0, 9, 1);
+        torn.setGround(1, 0, 9, 9);
+        CHECK.due("peg(0, 3) out on soft ground", torn.peg(0, 3), 0);
+        CHECK.due("again(0) on the softest ground", torn.again(0), 4);
+        CHECK.due("peg(1, 3) out on firm ground", torn.peg(1, 3), 0);
+        CHECK.due("again(1) on the firmest ground", torn.again(1), 36);
+        CHECK.due("peg(0, 3)", torn.peg(0, 3), 4);
+        CHECK.due("peg(1, 3)", torn.peg(1, 3), 36);
+        CHECK.due("count(4): the tents stay down", torn.count(4), 0);
+    }
+
     private static void again() {
         TentCamp camp = withTornPeg();
         CHECK.due("peg(0, 2) torn out", camp.peg(0, 2), 0);
@@ -84,6 +139,9 @@ final class PegTest {
         CHECK.due("peg(0, 4) with 3 ropes", camp.peg(0, 4), 3);
         camp.tie(1, 0);
         CHECK.due("peg(0, 4) with 2 ropes", camp.peg(0, 4), 2);
+        camp.tie(0, 0);
+        camp.tie(2, 0);
+        CHECK.due("peg(0, 4) with no rope left", camp.peg(0, 4), 0);
         CHECK.outOfBounds("peg(-1, 0)", camp, () -> camp.peg(-1, 0));
         CHECK.outOfBounds("peg(1, 0)", camp, () -> camp.peg(1, 0));
         CHECK.outOfBounds("peg(0, -1)", camp, () -> camp.peg(0, -1));

@@ -8,21 +8,23 @@ final class RainTest {
         choosesTheLowestNeighbour();
         staysOnTheFlat();
         goesFromTheTop();
+        goesFromTheGreatestHeight();
+        staysWithinTheEdges();
         refuses();
         CHECK.end();
     }
 
     private static void runsDown() {
-        TentCamp camp = new TentCamp();
-        long before = camp.digest();
         for (int rain = 0; rain <= 9; rain++) {
+            TentCamp camp = new TentCamp();
+            long before = camp.digest();
             for (int cell = 0; cell < 100; cell++) {
                 int x = cell % 10;
                 int y = cell / 10;
                 CHECK.due("flood(" + rain + ", " + x + ", " + y + ")", camp.flood(rain, x, y), rain * (y + 1));
             }
+            CHECK.due("flood() changes nothing", camp.digest(), before);
         }
-        CHECK.due("flood() changes nothing", camp.digest(), before);
     }
 
     private static void ditchSwallows() {
@@ -32,6 +34,8 @@ final class RainTest {
         CHECK.due("flood(2, 4, 7) below a ditch", camp.flood(2, 4, 7), 2);
         CHECK.due("flood(2, 4, 9) below a ditch", camp.flood(2, 4, 9), 6);
         CHECK.due("flood(2, 5, 9) beside it", camp.flood(2, 5, 9), 20);
+        CHECK.due("flood(0, 4, 6) of a ditch without rain", camp.flood(0, 4, 6), 0);
+        CHECK.due("flood(9, 4, 6) of a ditch", camp.flood(9, 4, 6), 63);
         camp.ditch(4, 6);
         CHECK.due("flood(2, 4, 9) with the ditch filled up", camp.flood(2, 4, 9), 20);
     }
@@ -100,6 +104,47 @@ final class RainTest {
         CHECK.due("flood(1, 0, 0)", camp.flood(1, 0, 0), 100);
         CHECK.due("flood(9, 0, 0)", camp.flood(9, 0, 0), 900);
         CHECK.due("flood(9, 9, 9)", camp.flood(9, 9, 9), 9);
+    }
+
+    /** From the greatest height there is to the least, one above the other. */
+    private static void goesFromTheGreatestHeight() {
+        TentCamp camp = cross(30, 29, 29, 0);
+        camp.setGround(5, 5, 1, 5);
+        toldIn("30 and 0 high", camp, 4, 1, 1, 1, 5);
+        camp.setGround(5, 5, 30, 5);
+        toldIn("30 beside 30 high", camp, 1, 1, 1, 1, 2);
+        camp.setGround(5, 6, 30, 5);
+        toldIn("30 beside 29 high", camp, 1, 1, 2, 1, 1);
+        TentCamp low = cross(0, 0, 0, 0);
+        low.setGround(5, 5, 0, 5);
+        toldIn("all 0 high", low, 1, 1, 1, 1, 1);
+        low.setGround(5, 5, 1, 5);
+        toldIn("1 high among 0", low, 1, 2, 1, 1, 1);
+    }
+
+    /** In a corner the lower cells that a row's end would lead to are no neighbours. */
+    private static void staysWithinTheEdges() {
+        int[] corners = {0, 9, 90, 99};
+        for (int corner : corners) {
+            TentCamp camp = new TentCamp();
+            for (int cell = 0; cell < 100; cell++) {
+                int x = Math.abs(cell % 10 - corner % 10);
+                int y = Math.abs(cell / 10 - corner / 10);
+                camp.setGround(cell % 10, cell / 10, x + y <= 1 ? 20 - x - y : 0, 5);
+            }
+            int inwards = corner % 10 == 0 ? 1 : -1;
+            int downwards = corner / 10 == 0 ? 1 : -1;
+            int beside = corner + inwards;
+            int across = corner + 10 * downwards;
+            int to = downwards < 0 ? across : beside;
+            CHECK.due("flood() of the corner " + corner, flood(camp, corner), 1);
+            CHECK.due("flood() where the corner " + corner + " runs to", flood(camp, to), 2);
+            CHECK.due("flood() of the other one", flood(camp, beside + across - to), 1);
+        }
+    }
+
+    private static int flood(TentCamp camp, int cell) {
+        return camp.flood(1, cell % 10, cell / 10);
     }
 
     private static void refuses() {

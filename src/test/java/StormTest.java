@@ -1,9 +1,10 @@
-/** Promises 14, 15, 16 and 18: what a storm would do, and which rope would help. */
+/** Promises 14, 15 and 16: what a storm would do. */
 final class StormTest {
     private static final Check CHECK = new Check("StormTest");
 
     public static void main(String[] args) {
         holds();
+        holdsByTheSideInAllCells();
         holdsOnlyPegsThatAreIn();
         holdsRefuses();
         stormRounds();
@@ -11,19 +12,17 @@ final class StormTest {
         stormPullIsCut();
         stormAddsThePulls();
         stormGoesOn();
+        stormGoesOnToTheLastPeg();
         stormLeavesTheFallenOut();
         stormRefuses();
         bears();
+        bearsFromEachSide();
         bearsRefuses();
-        advisePicksTheBest();
-        adviseKnowsTheOthers();
-        adviseHasNone();
-        adviseRefuses();
         CHECK.end();
     }
 
     /** A tent at (5, 5), and pegs 0 to 8 row by row in the nine cells round it and in its own. */
-    private static TentCamp ringed() {
+    static TentCamp ringed() {
         TentCamp camp = new TentCamp();
         for (int peg = 0; peg < 9; peg++) {
             camp.drive(4 + peg % 3, 4 + peg / 3);
@@ -58,6 +57,26 @@ final class StormTest {
         CHECK.due("holds(0, 9, 3) by two", camp.holds(0, 9, 3), 2);
     }
 
+    /** A tent in some cells, and a peg in each one; that in the tent's own cell is on no side. */
+    private static void holdsByTheSideInAllCells() {
+        int[] tentCells = {0, 9, 90, 99, 48, 84};
+        for (int tentCell : tentCells) {
+            for (int pegCell = 0; pegCell < 100; pegCell++) {
+                TentCamp camp = new TentCamp();
+                int x = pegCell % 10 - tentCell % 10;
+                int y = pegCell / 10 - tentCell / 10;
+                camp.pitch(tentCell % 10, tentCell / 10, 9);
+                camp.drive(pegCell % 10, pegCell / 10);
+                camp.tie(0, 0);
+                boolean[] due = {y < 0, x > 0, y > 0, x < 0};
+                for (int direction = 0; direction < 4; direction++) {
+                    String call = "holds() from " + direction + ", tent in " + tentCell + ", peg in " + pegCell;
+                    CHECK.due(call, camp.holds(0, 9, direction), due[direction] ? 1 : 0);
+                }
+            }
+        }
+    }
+
     private static void holdsOnlyPegsThatAreIn() {
         TentCamp camp = ringed();
         camp.tie(0, 0);
@@ -75,6 +94,9 @@ final class StormTest {
 
     private static void holdsRefuses() {
         TentCamp camp = ringed();
+        CHECK.due("holds(0, 5, 0) without ropes", camp.holds(0, 5, 0), 0);
+        TentCamp noTents = new TentCamp();
+        CHECK.outOfBounds("holds(0, 5, 0) without tents", noTents, () -> noTents.holds(0, 5, 0));
         CHECK.outOfBounds("holds(-1, 5, 0)", camp, () -> camp.holds(-1, 5, 0));
         CHECK.outOfBounds("holds(1, 5, 0)", camp, () -> camp.holds(1, 5, 0));
         CHECK.outOfBounds("holds(1, 10, 4)", camp, () -> camp.holds(1, 10, 4));
@@ -97,7 +119,9 @@ final class StormTest {
         TentCamp camp = new TentCamp();
         storm("nothing there", camp, 0, 0, 0, 0, 0);
         storm("nothing there", camp, 1, 0, 0, 0, 1);
+        storm("nothing there", camp, 9, 3, 0, 0, 1);
         camp.drive(0, 0);
+        storm("a peg without ropes", camp, 9, 0, 0, 1, 1);
         camp.pitch(5, 5, 1);
         storm("a tent without ropes", camp, 0, 3, 1, 1, 0);
         storm("a tent without ropes", camp, 1, 3, 0, 1, 2);
@@ -170,6 +194,43 @@ final class StormTest {
         storm("all at once", camp, 6, 0, 0, 0, 4);
     }
 
+    /** Tent t hangs at the pegs 2t, 2t + 1 and 2t + 2: with force 2 each peg is torn out behind the one before it. */
+    private static TentCamp chain() {
+        TentCamp camp = new TentCamp();
+        for (int peg = 0; peg < 16; peg++) {
+            camp.drive(peg % 10, peg / 10);
+            camp.setGround(peg % 10, peg / 10, 9, peg % 2 == 1 ? 2 : 5);
+        }
+        camp.setGround(0, 0, 9, 1);
+        camp.setGround(5, 1, 9, 3);
+        for (int tent = 0; tent < 8; tent++) {
+            camp.pitch(tent, 9, 9);
+            for (int peg = 2 * tent; peg <= 2 * tent + 2 && peg < 16; peg++) {
+                camp.tie(tent, peg);
+            }
+        }
+        return camp;
+    }
+
+    private static void stormGoesOnToTheLastPeg() {
+        TentCamp camp = chain();
+        storm("the chain", camp, 0, 0, 8, 16, 0);
+        storm("the chain", camp, 1, 0, 8, 16, 1);
+        storm("the chain, peg by peg", camp, 2, 0, 0, 0, 18);
+        CHECK.due("bears(0) of the chain", camp.bears(0), 1);
+        camp.setGround(5, 1, 9, 5);
+        storm("peg 15 with 18 of 20", camp, 2, 0, 1, 1, 17);
+        camp.setGround(0, 0, 9, 2);
+        storm("peg 0 with 6 of 8", camp, 2, 0, 8, 16, 1);
+        CHECK.due("bears(0) with peg 0 on firmer ground", camp.bears(0), 2);
+        camp.setGround(0, 0, 9, 1);
+        camp.setGround(5, 1, 9, 3);
+        camp.setNight(0, 2, 0, 0);
+        CHECK.due("foresee(1, 2) of the chain", camp.foresee(1, 2), 0);
+        CHECK.due("pass(1) of the chain", camp.pass(1), 8);
+        CHECK.due("count(2) behind it", camp.count(2), 0);
+    }
+
     private static void stormLeavesTheFallenOut() {
         TentCamp camp = new TentCamp();
         camp.drive(5, 4);
@@ -194,6 +255,7 @@ final class StormTest {
         CHECK.badArgument("storm(5, -1, 0)", camp, () -> camp.storm(5, -1, 0));
         CHECK.badArgument("storm(5, 4, 0)", camp, () -> camp.storm(5, 4, 0));
         CHECK.badArgument("storm(10, 0, 3)", camp, () -> camp.storm(10, 0, 3));
+        CHECK.badArgument("storm(5, 4, 3)", camp, () -> camp.storm(5, 4, 3));
         CHECK.outOfBounds("storm(5, 0, -1)", camp, () -> camp.storm(5, 0, -1));
         CHECK.outOfBounds("storm(5, 0, 3)", camp, () -> camp.storm(5, 0, 3));
     }
@@ -234,80 +296,28 @@ final class StormTest {
         CHECK.due("bears(0) of a tent that stands 4 of 4", heavy.bears(0), 1);
     }
 
+    /** A tent of size 9 whose pegs bear 0, 1, 2 and 4 from above, the right, below and the left. */
+    private static void bearsFromEachSide() {
+        TentCamp camp = new TentCamp();
+        int[] cells = {45, 56, 65, 54};
+        int[] firmness = {2, 3, 5, 9};
+        camp.pitch(5, 5, 9);
+        for (int peg = 0; peg < 4; peg++) {
+            camp.drive(cells[peg] % 10, cells[peg] / 10);
+            camp.setGround(cells[peg] % 10, cells[peg] / 10, 5, firmness[peg]);
+            camp.tie(0, peg);
+        }
+        int[] due = {0, 1, 2, 4};
+        for (int direction = 0; direction < 4; direction++) {
+            CHECK.due("bears(" + direction + ") at one peg", camp.bears(direction), due[direction]);
+        }
+        camp.pitch(0, 0, 1);
+        CHECK.due("bears(3) beside a tent without ropes", camp.bears(3), 0);
+    }
+
     private static void bearsRefuses() {
         TentCamp camp = ringed();
         CHECK.badArgument("bears(-1)", camp, () -> camp.bears(-1));
         CHECK.badArgument("bears(4)", camp, () -> camp.bears(4));
-    }
-
-    private static void advise(String when, TentCamp camp, int tent, int direction, int due) {
-        long before = camp.digest();
-        CHECK.due(when + ": advise(" + tent + ", " + direction + ")", camp.advise(tent, direction), due);
-        CHECK.due(when + ": nothing is changed", camp.digest(), before);
-    }
-
-    private static void advisePicksTheBest() {
-        TentCamp camp = new TentCamp();
-        int[] firmness = {3, 7, 8, 8};
-        for (int peg = 0; peg < 4; peg++) {
-            camp.drive(3 + peg, 2);
-            camp.setGround(3 + peg, 2, 7, firmness[peg]);
-        }
-        camp.pitch(5, 5, 4);
-        advise("7 and 8 by the pegs 1 and 2", camp, 0, 0, 2);
-        advise("none is below", camp, 0, 2, -1);
-        advise("peg 3 alone is at the right", camp, 0, 1, 3);
-        camp.tie(0, 2);
-        advise("any of two ropes bears 9, but that of peg 0", camp, 0, 0, 1);
-        camp.tie(0, 1);
-        advise("9 already", camp, 0, 0, -1);
-        TentCamp even = new TentCamp();
-        even.drive(1, 1);
-        even.drive(2, 1);
-        even.pitch(5, 5, 3);
-        advise("of two as good", even, 0, 0, 0);
-    }
-
-    /** A heavy neighbour hangs at the firm peg 0, so that the soft peg 1 is better. */
-    private static void adviseKnowsTheOthers() {
-        TentCamp camp = new TentCamp();
-        camp.drive(4, 2);
-        camp.setGround(4, 2, 7, 9);
-        camp.drive(6, 2);
-        camp.setGround(6, 2, 7, 3);
-        camp.pitch(4, 5, 9);
-        camp.pitch(6, 5, 2);
-        advise("for itself", camp, 1, 0, 0);
-        camp.tie(0, 0);
-        advise("beside the neighbour", camp, 1, 0, 1);
-        camp.tie(0, 0);
-        camp.tie(1, 1);
-        advise("whether the others stand does not matter", camp, 1, 0, 0);
-    }
-
-    private static void adviseHasNone() {
-        TentCamp camp = ringed();
-        camp.setNight(0, 9, 0, 0);
-        camp.tie(0, 1);
-        camp.pass(1);
-        advise("a tent that is down", camp, 0, 2, -1);
-        camp.raise(0);
-        camp.tie(0, 1);
-        advise("a peg that is out does not help", camp, 0, 0, 0);
-        for (int peg = 3; peg < 9; peg++) {
-            camp.tie(0, peg);
-        }
-        advise("a tent with 6 ropes", camp, 0, 0, -1);
-        camp.tie(0, 8);
-        advise("a tent with 5 ropes", camp, 0, 0, 0);
-    }
-
-    private static void adviseRefuses() {
-        TentCamp camp = ringed();
-        CHECK.outOfBounds("advise(-1, 0)", camp, () -> camp.advise(-1, 0));
-        CHECK.outOfBounds("advise(1, 0)", camp, () -> camp.advise(1, 0));
-        CHECK.outOfBounds("advise(1, 4)", camp, () -> camp.advise(1, 4));
-        CHECK.badArgument("advise(0, -1)", camp, () -> camp.advise(0, -1));
-        CHECK.badArgument("advise(0, 4)", camp, () -> camp.advise(0, 4));
     }
 }
