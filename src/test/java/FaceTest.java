@@ -6,7 +6,10 @@ import java.util.Arrays;
 import java.util.Set;
 import java.util.TreeSet;
 
-/** The public face: what the document's code block gives, and no other member that is not private. */
+/**
+ * The public face: what the document's code block gives, and no other member that is not private; and what
+ * LANGUAGE.md (rules 1, 5 and 11) says of the members of all classes.
+ */
 final class FaceTest {
     private static final String INDEX = " IndexOutOfBoundsException";
     private static final String ARGUMENT = " IllegalArgumentException";
@@ -35,8 +38,18 @@ final class FaceTest {
         "long digest()",
     };
 
+    private static final Set<Class<?>> OF_CONSTANTS = Set.of(int.class, long.class, boolean.class, char.class,
+            String.class, int[].class, long[].class, char[].class, byte[].class);
+
     public static void main(String[] args) {
         Check check = new Check("FaceTest");
+        face(check);
+        privateNames(check);
+        classesInside(check);
+        check.end();
+    }
+
+    private static void face(Check check) {
         check.due("the class's modifiers", TentCamp.class.getModifiers(), Modifier.PUBLIC | Modifier.FINAL);
         Set<String> open = new TreeSet<>();
         for (Method method : TentCamp.class.getDeclaredMethods()) {
@@ -52,7 +65,44 @@ final class FaceTest {
         for (Field field : TentCamp.class.getDeclaredFields()) {
             check.due(field.getName() + " is private", Modifier.isPrivate(field.getModifiers()), true);
         }
-        check.end();
+    }
+
+    private static void privateNames(Check check) {
+        Set<String> open = new TreeSet<>();
+        for (Method method : TentCamp.class.getMethods()) {
+            open.add(method.getName());
+        }
+        for (Method method : TentCamp.class.getDeclaredMethods()) {
+            if (Modifier.isPrivate(method.getModifiers())) {
+                check.due(method.getName() + " is a public name too", open.contains(method.getName()), false);
+            }
+        }
+    }
+
+    private static void classesInside(Check check) {
+        Class<?>[] inside = TentCamp.class.getDeclaredClasses();
+        check.due("there are at most 12 classes", inside.length < 12, true);
+        fields(check, TentCamp.class);
+        for (Class<?> one : inside) {
+            int open = one.getModifiers() & (Modifier.PUBLIC | Modifier.PROTECTED);
+            check.due(one.getSimpleName() + " is open", open, 0);
+            check.due(one.getSimpleName() + " is static", Modifier.isStatic(one.getModifiers()), true);
+            fields(check, one);
+        }
+    }
+
+    private static void fields(Check check, Class<?> one) {
+        int ofObjects = 0;
+        for (Field field : one.getDeclaredFields()) {
+            String name = one.getSimpleName() + "." + field.getName();
+            if (Modifier.isStatic(field.getModifiers())) {
+                check.due(name + " is final", Modifier.isFinal(field.getModifiers()), true);
+                check.due(name + " is of a constant's type", OF_CONSTANTS.contains(field.getType()), true);
+            } else {
+                ofObjects++;
+            }
+        }
+        check.due(one.getSimpleName() + " has at most 20 fields", ofObjects <= 20, true);
     }
 
     private static String lineOf(Method method) {
